@@ -70,8 +70,7 @@ public final class HillContest {
     private final State[] history = new State[MAX_UNDO];
     private int oldestInHistory;
     private int undoable;
-    private final Hill trial = new Hill();
-    private final UnstableQueue queue = new UnstableQueue(trial);
+    private final Trial trial = new Trial();
     private final CommandText commandText = new CommandText();
     private int lastErrorPosition = NONE;
     private int lastFailedCommand = NONE;
@@ -196,14 +195,14 @@ public final class HillContest {
             throws IndexOutOfBoundsException, IllegalArgumentException {
         requireCell(cell);
         requireStones(stones);
-        return tryByQueue(cell, stones);
+        return trial.countByQueue(now.hill, cell, stones);
     }
 
     public int topplesIfByScan(int cell, int stones)
             throws IndexOutOfBoundsException, IllegalArgumentException {
         requireCell(cell);
         requireStones(stones);
-        return tryByScan(cell, stones);
+        return trial.countByScan(now.hill, cell, stones);
     }
 
     // ---- crowns
@@ -489,33 +488,10 @@ public final class HillContest {
         }
     }
 
-    private int tryByQueue(int cell, int stones) {
-        trial.copyFrom(now.hill);
-        trial.place(cell, stones, NOBODY);
-        queue.fill();
-        int topples = 0;
-        while (topples < MAX_TOPPLES && queue.size > 0) {
-            int toppled = queue.removeFirst();
-            int receiver = trial.topple(toppled);
-            // The receiver comes first: it alone may stand in the queue with a changed height.
-            if (receiver != OUTSIDE) {
-                queue.refreshAround(receiver);
-            }
-            queue.refreshAround(toppled);
-            topples++;
-        }
-        return topples;
-    }
-
-    private int tryByScan(int cell, int stones) {
-        trial.copyFrom(now.hill);
-        trial.place(cell, stones, NOBODY);
-        return trial.comeToRest();
-    }
-
     private boolean doTrialsAgree(int stones) {
         for (int cell = 0; cell < CELLS; cell++) {
-            if (tryByQueue(cell, stones) != tryByScan(cell, stones)) {
+            int byQueue = trial.countByQueue(now.hill, cell, stones);
+            if (byQueue != trial.countByScan(now.hill, cell, stones)) {
                 return false;
             }
         }
@@ -885,30 +861,57 @@ public final class HillContest {
         }
     }
 
-    /** A priority queue of the unstable cells of a hill: the one that topples next is the first. */
-    private static final class UnstableQueue {
-        private final Hill hill;
-        private final int[] cells = new int[CELLS];
+    /** A hill of its own on which stones are piled for a try, and the queue of its unstable cells. */
+    private static final class Trial {
+        private final Hill hill = new Hill();
+
+        /** A priority queue: in the order in which the cells topple, the next one first. */
+        private final int[] queue = new int[CELLS];
+
         private int size;
 
-        UnstableQueue(Hill hill) {
-            this.hill = hill;
+        int countByScan(Hill original, int cell, int stones) {
+            begin(original, cell, stones);
+            return hill.comeToRest();
         }
 
-        void fill() {
+        int countByQueue(Hill original, int cell, int stones) {
+            begin(original, cell, stones);
+            fillQueue();
+            int topples = 0;
+            while (topples < MAX_TOPPLES && size > 0) {
+                int toppled = removeFirst();
+                int receiver = hill.topple(toppled);
+                // The receiver comes first: it alone may stand in the queue with a changed height.
+                if (receiver != OUTSIDE) {
+                    refreshAround(receiver);
+                }
+                refreshAround(toppled);
+                topples++;
+            }
+            return topples;
+        }
+
+        private void begin(Hill original, int cell, int stones) {
+            hill.copyFrom(original);
+            hill.place(cell, stones, NOBODY);
+        }
+
+        private void fillQueue() {
             size = 0;
             for (int cell = 0; cell < CELLS; cell++) {
                 refresh(cell);
             }
         }
 
-        int removeFirst() {
-            int first = cells[0];
+        /** Called only for a queue that is not empty. */
+        private int removeFirst() {
+            int first = queue[0];
             remove(first);
             return first;
         }
 
-        void refreshAround(int cell) {
+        private void refreshAround(int cell) {
             refresh(cell);
             for (int side = 0; side < SIDES; side++) {
                 int neighbour = NEIGHBOURS[cell * SIDES + side];
@@ -928,8 +931,8 @@ public final class HillContest {
         private void remove(int cell) {
             int kept = 0;
             for (int i = 0; i < size; i++) {
-                if (cells[i] != cell) {
-                    cells[kept] = cells[i];
+                if (queue[i] != cell) {
+                    queue[kept] = queue[i];
                     kept++;
                 }
             }
@@ -939,11 +942,11 @@ public final class HillContest {
         /** Called only for a cell that is not in the queue, so that there is room for it. */
         private void insert(int cell) {
             int slot = size;
-            while (slot > 0 && comesBefore(cell, cells[slot - 1])) {
-                cells[slot] = cells[slot - 1];
+            while (slot > 0 && comesBefore(cell, queue[slot - 1])) {
+                queue[slot] = queue[slot - 1];
                 slot--;
             }
-            cells[slot] = cell;
+            queue[slot] = cell;
             size++;
         }
 

@@ -5,8 +5,9 @@ import java.util.function.Supplier;
  * from a fixed rule, so that each run of the test is the same.
  */
 final class ModelTest {
-    private static final int RUNS = 300;
-    private static final int CALLS = 400;
+    private static final int RUNS = 1500;
+    /** After 512 calls an object may answer what it likes; the last looks need some 170. */
+    private static final int CALLS = 340;
     private static final String[] STARTS = {
         "player ", "drop ", "pile ", "take ", "skip", "slope ", "open", "close"
     };
@@ -15,7 +16,7 @@ final class ModelTest {
     private HillContest x;
     private Model m;
     private int run;
-    private int call;
+    private int asked;
     /** Some runs seldom open the border or name wrong numbers, so that the hill fills. */
     private boolean isCalm;
 
@@ -38,20 +39,28 @@ final class ModelTest {
         x = new HillContest();
         m = new Model();
         isCalm = number % 3 == 0;
-        for (call = 0; call < CALLS; call++) {
+        int players = below(6);
+        for (int i = 0; i < players; i++) {
+            int hand = 60 - below(below(2) * 50 + 1);
+            both("addPlayer " + hand, () -> x.addPlayer(hand), () -> m.addPlayer(hand));
+        }
+        while (asked < CALLS) {
             change();
-            if (call % 4 == 0) {
+            if (below(6) == 0) {
                 look();
             }
-            if (call % 100 == 99) {
-                lookAtAll();
-                both("isConsistent", () -> x.isConsistent(), () -> true);
-            }
+        }
+        look();
+        lookAtAll();
+        both("isConsistent", x::isConsistent, () -> true);
+        if (asked > 512) {
+            throw new AssertionError("run " + run + " asked " + asked + " times");
         }
     }
 
-    private void both(String name, Supplier<Object> asked, Supplier<Object> due) {
-        Check.same("run " + run + " call " + call + ": " + name, answer(asked), answer(due));
+    private void both(String name, Supplier<Object> call, Supplier<Object> due) {
+        asked++;
+        Check.same("run " + run + " call " + asked + ": " + name, answer(call), answer(due));
     }
 
     private static Object answer(Supplier<Object> call) {
@@ -71,7 +80,7 @@ final class ModelTest {
         int player = about(4);
         int cell = about(25);
         int stones = isCalm ? 5 + below(5) : about(11);
-        int kind = below(isCalm ? 12 : 20);
+        int kind = below(isCalm ? 14 : 20);
         if (kind == 0) {
             int hand = isCalm ? 60 : below(64) - 1;
             both("addPlayer " + hand, () -> x.addPlayer(hand), () -> m.addPlayer(hand));
@@ -82,11 +91,10 @@ final class ModelTest {
             both("pile " + cell + " " + stones,
                     () -> x.pile(cell, stones), () -> m.pile(cell, stones));
         } else if (kind <= 10) {
-            both("take " + player + " " + cell,
-                    () -> x.take(player, cell), () -> m.take(player, cell));
-        } else if (kind <= 12) {
+            take(player, below(4) == 0 ? cell : ownedCellFrom(cell, player));
+        } else if (kind <= 14) {
             rareChange();
-        } else if (kind <= 15) {
+        } else if (kind == 15) {
             commands();
         } else if (kind == 16) {
             both("skip", x::skip, m::skip);
@@ -98,8 +106,23 @@ final class ModelTest {
         }
     }
 
+    private void take(int player, int cell) {
+        both("take " + player + " " + cell, () -> x.take(player, cell), () -> m.take(player, cell));
+    }
+
+    /** Without a cell that belongs to the player, the cell itself. */
+    private int ownedCellFrom(int cell, int player) {
+        for (int i = 0; i < 25; i++) {
+            int other = (cell + 1 + i) % 25;
+            if (answer(() -> m.owner(other)).equals(player)) {
+                return other;
+            }
+        }
+        return cell;
+    }
+
     private void rareChange() {
-        int kind = below(isCalm ? 12 : 8);
+        int kind = below(isCalm ? 20 : 8);
         int slope = about(9);
         boolean isOpen = below(2) == 0;
         if (kind <= 1) {
@@ -110,8 +133,18 @@ final class ModelTest {
             both("save", x::save, m::save);
         } else if (kind == 5) {
             both("restore", x::restore, m::restore);
-        } else {
+        } else if (kind <= 7) {
             commands();
+        } else {
+            skipOrUndo();
+        }
+    }
+
+    private void skipOrUndo() {
+        if (below(2) == 0) {
+            both("skip", x::skip, m::skip);
+        } else {
+            both("undo", x::undo, m::undo);
         }
     }
 

@@ -278,6 +278,15 @@ final class PlayersTest {
         Check.same("P6 skip", y.skip(), 0);
         Check.same("P6 skip", y.skip(), 0);
         Check.same("P6 rests", y.rest(0) + " " + y.rest(1), "0 0");
+        HillContest z = Hills.withPlayers(60, 60);
+        z.pile(24, 9);
+        z.drop(0, 24, 9);
+        z.pile(0, 9);
+        z.drop(1, 0, 9);
+        Check.same("P6 both rest", z.rest(0) + " " + z.rest(1), "2 3");
+        Check.same("P6 skip", z.skip(), 2);
+        Check.same("P6 both rest", z.rest(0) + " " + z.rest(1), "1 2");
+        Check.same("P6 skip", z.skip(), 1);
         Check.same("P6 skip without players", new HillContest().skip(), 0);
     }
 
