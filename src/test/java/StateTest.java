@@ -1,3 +1,5 @@
+import java.lang.reflect.Field;
+
 /** Promises 40 to 46: the line, the check of the invariants, undo and the snapshot. */
 final class StateTest {
     private static final Class<IndexOutOfBoundsException> INDEX = IndexOutOfBoundsException.class;
@@ -10,6 +12,7 @@ final class StateTest {
         lineStays();
         lineFails();
         isConsistent();
+        isNotConsistent();
         undo();
         undoEachKind();
         eightChanges();
@@ -118,6 +121,48 @@ final class StateTest {
             }
         }
         Check.yes("P34 some were lost", x.lostTotal() > 0);
+    }
+
+    /** No call breaks an invariant, so that the fields must be reached for. */
+    private static void isNotConsistent() {
+        HillContest unstable = new HillContest();
+        heights(unstable)[12] = 5;
+        setPlaced(unstable, 5);
+        Check.no("P43 an unstable cell", unstable.isConsistent());
+        heights(unstable)[12] = 2;
+        setPlaced(unstable, 2);
+        Check.yes("P43 at rest", unstable.isConsistent());
+        setPlaced(unstable, 3);
+        Check.no("P43 a stone placed, but not there", unstable.isConsistent());
+        heights(unstable)[12] = 0;
+        heights(unstable)[3] = -1;
+        setPlaced(unstable, -1);
+        Check.no("P43 cells and levels differ", unstable.isConsistent());
+    }
+
+    private static int[] heights(HillContest contest) {
+        return (int[]) field(field(field(contest, "now"), "hill"), "heights");
+    }
+
+    private static Object field(Object holder, String name) {
+        try {
+            Field field = holder.getClass().getDeclaredField(name);
+            field.setAccessible(true);
+            return field.get(holder);
+        } catch (ReflectiveOperationException e) {
+            throw new AssertionError(e);
+        }
+    }
+
+    private static void setPlaced(HillContest contest, int stones) {
+        Object now = field(contest, "now");
+        try {
+            Field field = now.getClass().getDeclaredField("placed");
+            field.setAccessible(true);
+            field.setInt(now, stones);
+        } catch (ReflectiveOperationException e) {
+            throw new AssertionError(e);
+        }
     }
 
     private static void undo() {
