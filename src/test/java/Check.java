@@ -4,14 +4,24 @@ import java.util.Objects;
 final class Check {
     private static int done;
     private static int wrong;
+    private static String about = "";
 
     private Check() {}
+
+    /** What the next answers are about; stands before each wrong one. */
+    static void about(String words) {
+        about = words;
+    }
+
+    static int countDone() {
+        return done;
+    }
 
     static void same(String call, Object got, Object due) {
         done++;
         if (!Objects.equals(got, due)) {
             wrong++;
-            System.out.println(call + " answered " + got + ", due is " + due);
+            System.out.println(about + call + " answered " + got + ", due is " + due);
         }
     }
 
@@ -21,6 +31,17 @@ final class Check {
 
     static void no(String call, boolean got) {
         same(call, got, false);
+    }
+
+    /** For calls whose answer is asked elsewhere, or is of no matter. */
+    static void answers(String call, Runnable calling) {
+        Object thrown = "no exception";
+        try {
+            calling.run();
+        } catch (RuntimeException e) {
+            thrown = e.getClass();
+        }
+        same(call + " throws", thrown, "no exception");
     }
 
     /** The exception must be of this very class: the machine's own are of classes below it. */
