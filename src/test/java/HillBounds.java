@@ -61,6 +61,8 @@ final class HillBounds {
     private static void tries() {
         Sentence.holds("Promise 21", "if stones were piled on a cell now, however many stones are on the"
                 + " hill", () -> tryOnAFullHill("topplesIf", HillContest::topplesIf));
+        Sentence.holds("Promise 21", "It is found with a priority queue of unstable cells.",
+                HillBounds::tryInOrder);
         Sentence.holds("Promise 21", CELL, () -> tryAtEnds(HillContest::topplesIf));
         Sentence.holds("Promise 21", STONES, () -> tryFewAndMany(HillContest::topplesIf));
         Sentence.holds("Promise 21", NO_CELL, () -> tryNoCell("topplesIf", HillContest::topplesIf));
@@ -270,6 +272,16 @@ final class HillBounds {
         Check.same("three are the highest", x.highestCell(), 0);
         x.pile(23, 1);
         Check.same("one is higher", x.highestCell(), 23);
+        for (int cell = 0; cell < 24; cell++) {
+            HillContest y = new HillContest();
+            Hills.pileTo(y, cell, 1, 24, 1);
+            Check.same(cell + " as high as 24", y.highestCell(), cell);
+            y.pile(24, 1);
+            Check.same(cell + " lower than 24", y.highestCell(), 24);
+            y.undo();
+            y.pile(cell, 1);
+            Check.same(cell + " higher than 24", y.highestCell(), cell);
+        }
     }
 
     private interface Try {
@@ -295,6 +307,24 @@ final class HillBounds {
         HillContest empty = new HillContest();
         Check.same(call + " on an empty hill", trying.of(empty, 12, 3), 1);
         Check.same(call + " on an empty hill", trying.of(empty, 12, 2), 0);
+    }
+
+    /** Hills on which the number of topples is another one if a cell topples before a higher one. */
+    private static void tryInOrder() {
+        HillContest x = new HillContest();
+        x.setSlope(2);
+        x.setBorder(true);
+        x.pile(8, 4);
+        Check.same("with an open border", x.topplesIf(8, 9), 15);
+        Check.same("by scan", x.topplesIfByScan(8, 9), 15);
+        HillContest y = new HillContest();
+        y.setSlope(2);
+        y.pile(19, 2);
+        y.pile(9, 3);
+        y.pile(20, 4);
+        Check.same("with a closed border", y.topplesIf(2, 9), 10);
+        Check.same("by scan", y.topplesIfByScan(2, 9), 10);
+        Check.same("the pile", y.pile(2, 9), 10);
     }
 
     /** As many topples as the pile has that follows. */

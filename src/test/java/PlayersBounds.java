@@ -390,6 +390,12 @@ final class PlayersBounds {
         Check.same("without players", new HillContest().skip(), 0);
         Check.same("nobody rests", Hills.withPlayers(60, 60).skip(), 0);
         Check.same("a rest of 1 ends, one of 2 does not", twoRest().skip(), 1);
+        HillContest first = Hills.withPlayers(60, 60);
+        first.pile(24, 9);
+        first.drop(0, 24, 9);
+        for (int due : new int[] {1, 1, 0, 0}) {
+            Check.same("a rest of 3 of the first player", first.skip(), due);
+        }
         HillContest x = allRest();
         for (int due : new int[] {3, 3, 2, 1, 0, 0}) {
             Check.same("skip", x.skip(), due);
