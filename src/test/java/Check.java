@@ -4,17 +4,18 @@ import java.util.Objects;
 final class Check {
     private static int done;
     private static int wrong;
+    /** What the answers are about; stands before each wrong one. */
     private static String about = "";
 
     private Check() {}
 
-    /** What the next answers are about; stands before each wrong one. */
-    static void about(String words) {
+    /** A test that asks nothing would find nothing. */
+    static void asks(String words, Runnable test) {
         about = words;
-    }
-
-    static int countDone() {
-        return done;
+        int before = done;
+        test.run();
+        yes("asks something", done > before);
+        about = "";
     }
 
     static void same(String call, Object got, Object due) {

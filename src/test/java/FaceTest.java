@@ -1,14 +1,22 @@
+import java.io.IOException;
 import java.lang.reflect.Constructor;
 import java.lang.reflect.Field;
 import java.lang.reflect.Member;
 import java.lang.reflect.Method;
 import java.lang.reflect.Modifier;
+import java.nio.file.Files;
+import java.nio.file.Path;
 import java.util.ArrayList;
+import java.util.LinkedHashMap;
 import java.util.List;
+import java.util.Map;
 import java.util.TreeSet;
+import java.util.regex.Matcher;
+import java.util.regex.Pattern;
 
 /** The public face of the document, and what LANGUAGE.md says of the members of the classes. */
 final class FaceTest {
+    private static final Path FILE = Path.of("src/main/java/HillContest.java");
     private static final String I = " throws IndexOutOfBoundsException";
     private static final String[] FACE = {
         "int addPlayer(int) throws IllegalArgumentException, IllegalStateException",
@@ -59,8 +67,11 @@ final class FaceTest {
         "int restore() throws IllegalStateException",
     };
 
-    public static void main(String[] args) {
+    public static void main(String[] args) throws IOException {
         face();
+        if (Document.isHere()) {
+            likeTheDocument(Files.readString(FILE));
+        }
         noOtherMembers();
         for (Class<?> inside : HillContest.class.getDeclaredClasses()) {
             insideClass(inside);
@@ -85,6 +96,45 @@ final class FaceTest {
         Check.same("one constructor", constructors.length, 1);
         Check.same("without parameters", constructors[0].getParameterCount(), 0);
         Check.same("its modifiers", Modifier.toString(constructors[0].getModifiers()), "public");
+    }
+
+    /** The words themselves, so that the parameters' names and the order of all are compared too. */
+    private static void likeTheDocument(String program) {
+        List<String> face = Document.face();
+        face.replaceAll(line -> line.replaceAll("( \\{|;)$", ""));
+        List<String> declared = declarations(program);
+        Check.same("the face", declared, face);
+        Check.same("its calls", declared.size(), FACE.length + 3);
+        Check.yes("promise 1 is the constructor", Document.promise(1)[1].equals("HillContest()"));
+        for (int number = 2; number <= Document.PROMISES; number++) {
+            String[] promise = Document.promise(number);
+            Check.yes(promise[0] + " is declared", declared.contains("public " + promise[1]));
+            Check.yes(promise[0] + " is its name", promise[1].contains(" " + promise[0] + "("));
+        }
+        Check.same("what the interface says ahead of the calls", groups(program), Document.groups());
+    }
+
+    private static List<String> declarations(String program) {
+        List<String> found = new ArrayList<>();
+        Matcher line = Pattern.compile("(?m)^(import [^;]*|(    )?public [^{;]*)[;{]").matcher(program);
+        while (line.find()) {
+            found.add(line.group(1).strip().replaceAll("\\s+", " "));
+        }
+        return found;
+    }
+
+    private static Map<String, String> groups(String program) {
+        Map<String, String> groups = new LinkedHashMap<>();
+        String group = "none";
+        Matcher line = Pattern.compile("(?m)^    (// ---- (.*)|public [^(]* (\\w+)\\()").matcher(program);
+        while (line.find()) {
+            if (line.group(2) != null) {
+                group = line.group(2);
+            } else {
+                groups.put(line.group(3), group);
+            }
+        }
+        return groups;
     }
 
     private static String tell(Method method) {

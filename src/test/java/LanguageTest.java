@@ -35,6 +35,7 @@ final class LanguageTest {
         Check.no("rule 10: no texts joined by +", Pattern.compile("\"\" *\\+|\\+ *\"\"").matcher(bare).find());
         Check.no("rule 5: no static block", Pattern.compile("\\bstatic *\\{").matcher(bare).find());
         methodLengths(bare);
+        madeOnce(bare);
         Check.end();
     }
 
@@ -48,6 +49,13 @@ final class LanguageTest {
             Matcher made = Pattern.compile(" new (\\w+)\\((\"\")?\\)").matcher(thrown.group(1));
             Check.yes("rule 6: throw" + thrown.group(1), made.matches() && EXCEPTIONS.contains(made.group(1)));
         }
+    }
+
+    /** What a run makes is counted: all is made with the object, and no call makes more but an exception. */
+    private static void madeOnce(String bare) {
+        String besidesFields = bare.replaceAll("(?m)^ *private final [^;]*;", "").replaceAll("throw new", "");
+        Check.same("rule 12: made in the constructors' loops", all("[^\n]*\\bnew\\b[^\n]*", besidesFields),
+                List.of("            history[i] = new State();", "                commands[i] = new Command();"));
     }
 
     /** Methods of the inner classes are indented by eight blanks, the others by four. */

@@ -1,247 +1,31 @@
-import java.util.function.Supplier;
-
-/**
- * Promises 1 to 46: long runs of calls, asked of the program and of the model. The numbers come
- * from a fixed rule, so that each run of the test is the same.
- */
+/** Promises 1 to 46: runs of changes and looks, at the end of which all is looked at. */
 final class ModelTest {
     private static final int RUNS = 1500;
-    /** After 512 calls an object may answer what it likes; the last looks need some 170. */
+    /** The last looks need some 170 calls. */
     private static final int CALLS = 340;
-    private static final String[] STARTS = {
-        "player ", "drop ", "pile ", "take ", "skip", "slope ", "open", "close"
-    };
 
-    private long seed;
-    private HillContest x;
-    private Model m;
-    private int run;
-    private int asked;
-    /** Some runs seldom open the border or name wrong numbers, so that the hill fills. */
-    private boolean isCalm;
+    private ModelTest() {}
 
     public static void main(String[] args) {
-        for (int run = 0; run < RUNS; run++) {
-            new ModelTest().go(run);
+        for (int number = 0; number < RUNS; number++) {
+            go(new ModelRun("run " + number, number, number % 3 == 0));
         }
         Check.end();
     }
 
-    private int below(int bound) {
-        seed = seed * 6364136223846793005L + 1442695040888963407L;
-        return (int) ((seed >>> 33) % bound);
-    }
-
-    private void go(int number) {
-        run = number;
-        seed = number * 7919L + 17;
-        below(2);
-        x = new HillContest();
-        m = new Model();
-        isCalm = number % 3 == 0;
-        int players = below(6);
-        for (int i = 0; i < players; i++) {
-            int hand = 60 - below(below(2) * 50 + 1);
-            both("addPlayer " + hand, () -> x.addPlayer(hand), () -> m.addPlayer(hand));
-        }
-        while (asked < CALLS) {
-            change();
-            if (below(6) == 0) {
-                look();
+    private static void go(ModelRun run) {
+        run.addPlayers();
+        while (run.asked() < CALLS) {
+            run.change();
+            if (run.below(6) == 0) {
+                run.look();
             }
         }
-        look();
-        lookAtAll();
-        both("isConsistent", x::isConsistent, () -> true);
-        if (asked > 512) {
-            throw new AssertionError("run " + run + " asked " + asked + " times");
-        }
-    }
-
-    private void both(String name, Supplier<Object> call, Supplier<Object> due) {
-        asked++;
-        Check.same("run " + run + " call " + asked + ": " + name, answer(call), answer(due));
-    }
-
-    private static Object answer(Supplier<Object> call) {
-        try {
-            return call.get();
-        } catch (RuntimeException e) {
-            return e.getClass();
-        }
-    }
-
-    /** Mostly from 0 to bound - 1, now and then just outside. */
-    private int about(int bound) {
-        return isCalm && below(10) > 0 ? below(bound) : below(bound + 2) - 1;
-    }
-
-    private void change() {
-        int player = about(4);
-        int cell = about(25);
-        int stones = isCalm ? 5 + below(5) : about(11);
-        int kind = below(isCalm ? 14 : 20);
-        if (kind == 0) {
-            int hand = isCalm ? 60 : below(64) - 1;
-            both("addPlayer " + hand, () -> x.addPlayer(hand), () -> m.addPlayer(hand));
-        } else if (kind <= 4) {
-            both("drop " + player + " " + cell + " " + stones,
-                    () -> x.drop(player, cell, stones), () -> m.drop(player, cell, stones));
-        } else if (kind <= 8) {
-            both("pile " + cell + " " + stones,
-                    () -> x.pile(cell, stones), () -> m.pile(cell, stones));
-        } else if (kind <= 10) {
-            take(player, below(4) == 0 ? cell : ownedCellFrom(cell, player));
-        } else if (kind <= 14) {
-            rareChange();
-        } else if (kind == 15) {
-            commands();
-        } else if (kind == 16) {
-            both("skip", x::skip, m::skip);
-        } else if (kind <= 18) {
-            both("undo", x::undo, m::undo);
-        } else {
-            int row = about(5);
-            both("describeRow " + row, () -> x.describeRow(row), () -> m.describeRow(row));
-        }
-    }
-
-    private void take(int player, int cell) {
-        both("take " + player + " " + cell, () -> x.take(player, cell), () -> m.take(player, cell));
-    }
-
-    /** Without a cell that belongs to the player, the cell itself. */
-    private int ownedCellFrom(int cell, int player) {
-        for (int i = 0; i < 25; i++) {
-            int other = (cell + 1 + i) % 25;
-            if (answer(() -> m.owner(other)).equals(player)) {
-                return other;
-            }
-        }
-        return cell;
-    }
-
-    private void rareChange() {
-        int kind = below(isCalm ? 20 : 8);
-        int slope = about(9);
-        boolean isOpen = below(2) == 0;
-        if (kind <= 1) {
-            both("setSlope " + slope, () -> x.setSlope(slope), () -> m.setSlope(slope));
-        } else if (kind == 2) {
-            both("setBorder " + isOpen, () -> x.setBorder(isOpen), () -> m.setBorder(isOpen));
-        } else if (kind <= 4) {
-            both("save", x::save, m::save);
-        } else if (kind == 5) {
-            both("restore", x::restore, m::restore);
-        } else if (kind <= 7) {
-            commands();
-        } else {
-            skipOrUndo();
-        }
-    }
-
-    private void skipOrUndo() {
-        if (below(2) == 0) {
-            both("skip", x::skip, m::skip);
-        } else {
-            both("undo", x::undo, m::undo);
-        }
-    }
-
-    private void commands() {
-        StringBuilder text = new StringBuilder(command());
-        int more = below(6);
-        for (int i = 0; i < more; i++) {
-            text.append(';').append(command());
-        }
-        if (below(4) == 0) {
-            spoil(text);
-        }
-        for (int i = 0; i < text.length(); i++) {
-            char sign = text.charAt(i);
-            both("append " + (int) sign, () -> x.append(sign), () -> m.append(sign));
-        }
-        if (below(8) > 0) {
-            both("run " + text, x::run, m::run);
-        }
-    }
-
-    private String command() {
-        String start = STARTS[below(STARTS.length)];
-        int player = below(3);
-        int cell = below(below(20) == 0 ? 100 : 25);
-        String number = below(6) == 0 && cell < 10 ? "0" + cell : "" + cell;
-        int stones = below(20) == 0 ? 0 : 1 + below(4);
-        switch (start) {
-            case "player ":
-                return start + (1 + below(65));
-            case "drop ":
-                return start + player + " " + number + " " + stones;
-            case "pile ":
-                return start + number + " " + stones;
-            case "take ":
-                return start + player + " " + number;
-            case "slope ":
-                return start + (2 + below(6));
-            default:
-                return start;
-        }
-    }
-
-    private void spoil(StringBuilder text) {
-        int place = below(text.length());
-        switch (below(4)) {
-            case 0 -> text.setLength(place);
-            case 1 -> text.deleteCharAt(place);
-            case 2 -> text.setCharAt(place, "0 9;pkldsex!~".charAt(below(13)));
-            default -> text.insert(place, "0 9;pkldsex\u007f\u001f".charAt(below(13)));
-        }
-    }
-
-    private void look() {
-        int cell = about(25);
-        int player = about(4);
-        int rank = about(5);
-        int stones = about(11);
-        both("height", () -> x.height(cell), () -> m.height(cell));
-        both("owner", () -> x.owner(cell), () -> m.owner(cell));
-        both("steepness", () -> x.steepness(cell), () -> m.steepness(cell));
-        both("lowestNeighbour", () -> x.lowestNeighbour(cell), () -> m.lowestNeighbour(cell));
-        both("isPeak", () -> x.isPeak(cell), () -> m.isPeak(cell));
-        both("topplesIf", () -> x.topplesIf(cell, stones), () -> m.topplesIf(cell, stones));
-        both("topplesIfByScan", () -> x.topplesIfByScan(cell, stones), () -> m.topplesIf(cell, stones));
-        both("hand", () -> x.hand(player), () -> m.hand(player));
-        both("rest", () -> x.rest(player), () -> m.rest(player));
-        both("crowns", () -> x.crowns(player), () -> m.crowns(player));
-        both("score", () -> x.score(player), () -> m.score(player));
-        both("crownShare", () -> x.crownShare(player), () -> m.crownShare(player));
-        both("peakAt", () -> x.peakAt(rank), () -> m.peakAt(rank));
-        both("playerAtRank", () -> x.playerAtRank(rank), () -> m.playerAtRank(rank));
-        int index = about(30);
-        both("lineAt", () -> x.lineAt(index), () -> m.lineAt(index));
-    }
-
-    private void lookAtAll() {
-        both("playerCount", x::playerCount, m::playerCount);
-        both("criticalSlope", x::criticalSlope, m::criticalSlope);
-        both("isBorderOpen", x::isBorderOpen, m::isBorderOpen);
-        both("stonesOnHill", x::stonesOnHill, m::stonesOnHill);
-        both("stonesByLevels", x::stonesByLevels, m::stonesOnHill);
-        both("highestCell", x::highestCell, m::highestCell);
-        both("peakCount", x::peakCount, m::peakCount);
-        both("toppleTotal", x::toppleTotal, m::toppleTotal);
-        both("avalancheCount", x::avalancheCount, m::avalancheCount);
-        both("largestAvalanche", x::largestAvalanche, m::largestAvalanche);
-        both("placedTotal", x::placedTotal, m::placedTotal);
-        both("lostTotal", x::lostTotal, m::lostTotal);
-        both("takenTotal", x::takenTotal, m::takenTotal);
-        both("errorPosition", x::errorPosition, m::errorPosition);
-        both("failedCommand", x::failedCommand, m::failedCommand);
-        both("meanAvalanche", x::meanAvalanche, m::meanAvalanche);
-        for (int i = 0; i < 25; i++) {
-            int cell = i;
-            both("height " + cell, () -> x.height(cell), () -> m.height(cell));
-            both("owner " + cell, () -> x.owner(cell), () -> m.owner(cell));
+        run.look();
+        run.lookAtAll();
+        run.both("isConsistent", run.x::isConsistent, () -> true);
+        if (run.asked() == ModelRun.MOST_CALLS) {
+            throw new AssertionError("no call was left for the last looks");
         }
     }
 }

@@ -13,6 +13,7 @@ final class StateTest {
         lineFails();
         isConsistent();
         isNotConsistent();
+        isNotConsistentWhereTriesDiffer();
         undo();
         undoEachKind();
         eightChanges();
@@ -140,6 +141,17 @@ final class StateTest {
         Check.no("P43 cells and levels differ", unstable.isConsistent());
     }
 
+    /**
+     * A trial on the contest's own hill leaves its stones there, so that the second try finds another
+     * hill than the first: 1 stone twice on each cell makes no difference, 9 on the first cell do.
+     */
+    private static void isNotConsistentWhereTriesDiffer() {
+        HillContest x = new HillContest();
+        setField(field(x, "trial"), "hill", field(field(x, "now"), "hill"));
+        Check.no("P43 the tries differ", x.isConsistent());
+        Check.same("P43 tried 1 stone on each cell and 9 on the first", x.stonesOnHill(), 25 * 2 + 9 * 2);
+    }
+
     private static int[] heights(HillContest contest) {
         return (int[]) field(field(field(contest, "now"), "hill"), "heights");
     }
@@ -155,11 +167,14 @@ final class StateTest {
     }
 
     private static void setPlaced(HillContest contest, int stones) {
-        Object now = field(contest, "now");
+        setField(field(contest, "now"), "placed", stones);
+    }
+
+    private static void setField(Object holder, String name, Object value) {
         try {
-            Field field = now.getClass().getDeclaredField("placed");
+            Field field = holder.getClass().getDeclaredField(name);
             field.setAccessible(true);
-            field.setInt(now, stones);
+            field.set(holder, value);
         } catch (ReflectiveOperationException e) {
             throw new AssertionError(e);
         }
